@@ -80,7 +80,8 @@ public final class WordFlasher {
             return LIMIT_REACHED;
         }
         history.keep(now);
-        now.lengthen(character);
+        put(now.text, now.length, character);
+        now.startAnew(now.length + 1);
         return words.many;
     }
 
@@ -92,7 +93,7 @@ public final class WordFlasher {
             return NOT_POSSIBLE;
         }
         history.keep(now);
-        now.shorten(characters);
+        now.startAnew(now.length - characters);
         return now.length;
     }
 
@@ -132,16 +133,7 @@ public final class WordFlasher {
         }
         int first = at(words.sentences.firsts, sentence);
         int last = at(words.sentences.lasts, sentence);
-        switch (what) {
-            case 0:
-                return first;
-            case 1:
-                return last;
-            case 2:
-                return now.timeOfAll(first, last);
-            default:
-                return words.shownAmong(first, last);
-        }
+        return what == 3 ? words.shownAmong(first, last) : spanProperty(first, last, what);
     }
 
     public int page(int page, int what) {
@@ -150,15 +142,18 @@ public final class WordFlasher {
         }
         int first = at(words.pages.firsts, page);
         int last = at(words.pages.lasts, page);
+        return what == 3 ? words.sentencesAmong(first, last) : spanProperty(first, last, what);
+    }
+
+    /** What sentences and pages have alike. */
+    private int spanProperty(int first, int last, int what) {
         switch (what) {
             case 0:
                 return first;
             case 1:
                 return last;
-            case 2:
-                return now.timeOfAll(first, last);
             default:
-                return at(words.sentences.numbers, last) - at(words.sentences.numbers, first) + 1;
+                return now.timeOfAll(first, last);
         }
     }
 
@@ -544,10 +539,6 @@ public final class WordFlasher {
             put(lasts, many - 1, word);
             put(numbers, word, many - 1);
         }
-
-        boolean isLast(int word) {
-            return at(lasts, at(numbers, word)) == word;
-        }
     }
 
     /** The words of a text and what follows from their characters alone. */
@@ -666,6 +657,10 @@ public final class WordFlasher {
             return shown;
         }
 
+        int sentencesAmong(int first, int last) {
+            return at(sentences.numbers, last) - at(sentences.numbers, first) + 1;
+        }
+
         boolean hasClassAmong(int kind, int first, int last) {
             for (int w = first; w <= last; w++) {
                 if (!isMark(w) && classOf(w) == kind) {
@@ -675,13 +670,19 @@ public final class WordFlasher {
             return false;
         }
 
-        int firstShown() {
-            for (int w = 0; w < many; w++) {
+        /** The next word behind this one that is no page mark, or NONE. */
+        int shownBehind(int word) {
+            for (int w = word + 1; w < many; w++) {
                 if (!isMark(w)) {
                     return w;
                 }
             }
             return NONE;
+        }
+
+        /** Whether the sentence of a shown word ends ahead of the next shown word, or behind it there is none. */
+        boolean endsAheadOf(int next, int shown) {
+            return next == NONE || at(sentences.numbers, next) != at(sentences.numbers, shown);
         }
 
         /** The first word of the last sentence before this one that has shown words. */
@@ -750,18 +751,8 @@ public final class WordFlasher {
 
         // ---- altering the text
 
-        void lengthen(int character) {
-            put(text, length, character);
-            length++;
-            startAnew();
-        }
-
-        void shorten(int characters) {
-            length -= characters;
-            startAnew();
-        }
-
-        private void startAnew() {
+        void startAnew(int newLength) {
+            length = newLength;
             words.read(text, length);
             placed = 0;
             askedBack = false;
@@ -771,7 +762,7 @@ public final class WordFlasher {
                     notes[w] = 0;
                 }
             }
-            becomePresent(words.firstShown());
+            becomePresent(words.shownBehind(NONE));
         }
 
         // ---- times
@@ -863,9 +854,9 @@ public final class WordFlasher {
                 unspent -= rest;
                 ticksGone += rest;
                 ended++;
-                int next = nextBehind(present);
-                if (beginsSentence(next, present)) {
-                    askedBack = false;
+                int next = words.shownBehind(present);
+                if (words.endsAheadOf(next, present)) {
+                    endSentenceOf(present);
                 }
                 becomePresent(next);
             }
@@ -877,37 +868,20 @@ public final class WordFlasher {
             return ended;
         }
 
-        /** The word that comes behind one that has been shown; ends of sentences on the way make speeds grow. */
-        private int nextBehind(int shown) {
-            endSentenceAt(shown);
-            int next = shown + 1;
-            while (next < words.many && words.isMark(next)) {
-                endSentenceAt(next);
-                next++;
-            }
-            return next;
-        }
-
-        private void endSentenceAt(int word) {
-            if (askedBack || !words.sentences.isLast(word)) {
-                return;
-            }
-            int sentence = at(words.sentences.numbers, word);
+        private void endSentenceOf(int shown) {
+            int sentence = at(words.sentences.numbers, shown);
             int first = at(words.sentences.firsts, sentence);
-            for (int kind = 0; kind < CLASSES; kind++) {
-                if (words.hasClassAmong(kind, first, word)) {
+            for (int kind = 0; kind < CLASSES && !askedBack; kind++) {
+                if (words.hasClassAmong(kind, first, shown)) {
                     put(speeds, kind, Math.min(FASTEST, at(speeds, kind) + at(settings, STEP_UP)));
                 }
             }
-        }
-
-        private boolean beginsSentence(int next, int shown) {
-            return words.has(next)
-                && at(words.sentences.numbers, next) != at(words.sentences.numbers, shown);
+            // The next word begins a sentence; where there is none, all that can follow says anew what this is.
+            askedBack = false;
         }
 
         int askError() {
-            return words.firstShown() == NONE ? NOT_POSSIBLE : FINE;
+            return words.shownBehind(NONE) == NONE ? NOT_POSSIBLE : FINE;
         }
 
         void askBack() {
@@ -1107,7 +1081,7 @@ public final class WordFlasher {
         }
 
         private boolean isOrder(int letter, int digits, int number) {
-            boolean numbered = digits >= 1 && digits <= MOST_DIGITS;
+            boolean numbered = digits > 0;
             switch (letter) {
                 case 'b':
                 case 'u':
@@ -1123,10 +1097,10 @@ public final class WordFlasher {
             }
         }
 
-        /** How many digits stand behind the letter of an order; one too many is enough to know. */
+        /** How many digits belong to the order at a position; one too many stands where its semicolon is due. */
         private int digitsBehind(int position) {
             int digits = 0;
-            while (digits <= MOST_DIGITS && isFigure(characterAt(position + 1 + digits))) {
+            while (digits < MOST_DIGITS && isFigure(characterAt(position + 1 + digits))) {
                 digits++;
             }
             return digits;

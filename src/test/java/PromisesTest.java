@@ -255,6 +255,12 @@ public final class PromisesTest {
         y.speed(0, 99);
         dueRow("speed set", ofWords(y, 8), 19, 19, 73, 37, 37, 146, 146);
         due("the last word has no percent", of("a. b").word(1, 8), 18);
+        y.set(0, 1);
+        y.set(1, 1);
+        // 100 / 99: the least that is above a whole number
+        due("rounded up", y.word(0, 8), 2);
+        y.speed(0, 100);
+        due("nothing to round", y.word(0, 8), 1);
         WordFlasher z = of("a aaaaa aaaaaaaaa");
         z.speed(0, 50);
         z.speed(1, 200);
@@ -354,8 +360,10 @@ public final class PromisesTest {
             due(name + "first)", x.set(what, first[what]), most[what]);
             due("setting " + what, x.count(20 + what), first[what]);
         }
-        due("set(7, 100)", x.set(7, 100), INVALID);
-        due("set(-1, 100)", x.set(-1, 100), INVALID);
+        for (int value : new int[] {0, 1, 10, 100}) {
+            due("set(7, " + value + ")", x.set(7, value), INVALID);
+            due("set(-1, " + value + ")", x.set(-1, value), INVALID);
+        }
         x.set(0, 50);
         duePresent("set: the rest stays", x, 0, 18);
         due("set: the time does not", x.word(0, 8), 150);
@@ -657,6 +665,15 @@ public final class PromisesTest {
         x.append('|');
         due("no mark any more", x.word(5, 4), 0);
         due("its note is gone", x.word(5, 9), 0);
+        WordFlasher first = of("a");
+        first.note(0, 4);
+        first.cut(1);
+        due("a note without the first word", first.count(7), 0);
+        append(first, "b");
+        first.note(0, 5);
+        first.cut(1);
+        append(first, "| c");
+        due("a note on a first word that is a mark", first.noted(0, 0), MISSING);
         WordFlasher y = of("a b");
         y.run(20);
         y.cut(3);
@@ -743,7 +760,7 @@ public final class PromisesTest {
     }
 
     private static int[] everything(WordFlasher x) {
-        int[] row = new int[14 + 7 + 3 + 2 * x.count(1)];
+        int[] row = new int[14 + 7 + 3 + 4 * x.count(1)];
         int filled = 0;
         for (int what = 0; what <= 32; what++) {
             if (what != 11 && x.count(what) != INVALID) {
@@ -752,6 +769,8 @@ public final class PromisesTest {
         }
         for (int w = 0; w < x.count(1); w++) {
             row[filled++] = x.word(w, 0);
+            row[filled++] = x.word(w, 2);
+            row[filled++] = x.word(w, 4);
             row[filled++] = x.word(w, 9);
         }
         return row;
@@ -770,6 +789,13 @@ public final class PromisesTest {
         x.cut(9);
         x.undo();
         dueRow("cut undone", everything(x), before);
+        x.cut(12);
+        append(x, "|,;");
+        x.undo();
+        x.undo();
+        x.undo();
+        x.undo();
+        dueRow("cut undone behind other characters", everything(x), before);
         x.set(0, 50);
         x.undo();
         dueRow("set undone", everything(x), before);
@@ -920,6 +946,10 @@ public final class PromisesTest {
         due("noted(-1, 1)", x.noted(-1, 1), INVALID);
         due("noted(0, 2)", x.noted(0, 2), INVALID);
         due("noted(0, -1)", x.noted(0, -1), INVALID);
+        x.note(0, 3);
+        due("noted(0, 0), the first word", x.noted(0, 0), 0);
+        due("noted(1, 1), the first word", x.noted(1, 1), 0);
+        due("noted(0, 1), nothing before", x.noted(0, 1), MISSING);
         WordFlasher full = of(repeat("a ", 150));
         full.note(149, 3);
         due("noted, the last word", full.noted(149, 0), 149);
