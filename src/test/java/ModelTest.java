@@ -2,8 +2,12 @@ import java.util.Random;
 
 /** Random runs of calls, always the same ones: the class and the model have to answer alike. */
 public final class ModelTest {
-    private static final int RUNS = 300;
+    private static final int RUNS = 1500;
+    /** An object is used for at most 512 calls. */
     private static final int CALLS = 512;
+    /** More calls than one turn makes, with the look at the end. */
+    private static final int TURN = 60;
+    private static final int LOOKS = 3;
     private static final int[] COUNTS = {0, 1, 2, 3, 4, 5, 6, 7, 8, 9, 10, 11, 12, 13, 30, 31, 32};
     private static final int[] STRANGE = {Integer.MIN_VALUE, -65536, -2, -1, 149, 150, 151, 299, 300, 301, 65536 + 97,
         Integer.MAX_VALUE};
@@ -47,10 +51,16 @@ public final class ModelTest {
         for (int i = 0; i < words; i++) {
             type(words > 100 ? "ab |.".charAt(random.nextInt(5)) + (random.nextBoolean() ? " " : "") : piece());
         }
-        while (calls < CALLS && dues.wrong() == 0) {
+        while (calls < CALLS - TURN && dues.wrong() == 0) {
             call();
-            look();
+            for (int i = 0; i < LOOKS; i++) {
+                look(COUNTS[random.nextInt(COUNTS.length)]);
+            }
         }
+        for (int what : COUNTS) {
+            look(what);
+        }
+        dues.holds(name + " keeps to its calls: " + calls, calls <= CALLS);
     }
 
     private String piece() {
@@ -58,7 +68,7 @@ public final class ModelTest {
     }
 
     private void type(String text) {
-        for (int i = 0; i < text.length() && calls < CALLS; i++) {
+        for (int i = 0; i < text.length() && calls < CALLS - TURN; i++) {
             append(text.charAt(i));
         }
     }
@@ -90,11 +100,8 @@ public final class ModelTest {
         due("set(" + what + ", " + value + ")", real.set(what, value), model.set(what, value));
     }
 
-    /** All of the small state, behind each call. */
-    private void look() {
-        for (int what : COUNTS) {
-            dues.due(name + ", behind call " + calls + ": count(" + what + ")", real.count(what), model.count(what));
-        }
+    private void look(int what) {
+        due("count(" + what + ")", real.count(what), model.count(what));
     }
 
     private void call() {
@@ -199,8 +206,7 @@ public final class ModelTest {
                 due("page(" + page + ", " + what + ")", real.page(page, what), model.page(page, what));
             }
             case 4 -> {
-                int what = number(33);
-                due("count(" + what + ")", real.count(what), model.count(what));
+                look(number(33));
             }
             case 5 -> {
                 int from = number(model.count(1));
@@ -213,7 +219,7 @@ public final class ModelTest {
             }
             default -> {
                 int page = number(model.count(3));
-                int ticks = random.nextInt(3) == 0 ? number(100001) : random.nextInt(1 + 2 * Math.max(0, model.count(13)));
+                int ticks = random.nextInt(3) == 0 ? number(100001) : random.nextInt(1 + 2 * model.count(13));
                 due("speedFor(" + page + ", " + ticks + ")", real.speedFor(page, ticks), model.speedFor(page, ticks));
             }
         }

@@ -1,12 +1,7 @@
+import java.util.function.ToIntFunction;
+
 /** At least one test for each promise of the document: ordinary inputs, the edges that it names, wrong inputs. */
-public final class PromisesTest {
-    private static final int INVALID = -1;
-    private static final int IMPOSSIBLE = -2;
-    private static final int LIMIT = -3;
-    private static final int MISSING = -4;
-
-    private static final Dues DUES = new Dues();
-
+public final class PromisesTest extends Checks {
     private PromisesTest() {
     }
 
@@ -36,6 +31,7 @@ public final class PromisesTest {
         left();
         undo();
         undoRestoresEverything();
+        undoRestoresWhatIsNotShown();
         history();
         notes();
         unnote();
@@ -48,83 +44,6 @@ public final class PromisesTest {
         carry();
         carryStops();
         DUES.end();
-    }
-
-    // ---- helpers
-
-    private static void due(String call, long got, long want) {
-        DUES.due(call, got, want);
-    }
-
-    private static WordFlasher of(String text) {
-        return append(new WordFlasher(), text);
-    }
-
-    /** With the unit 50, so that a step of a speed shows in the times. */
-    private static WordFlasher slow(String text) {
-        WordFlasher x = new WordFlasher();
-        x.set(0, 50);
-        return append(x, text);
-    }
-
-    private static WordFlasher append(WordFlasher x, String text) {
-        for (int i = 0; i < text.length(); i++) {
-            x.append(text.charAt(i));
-        }
-        return x;
-    }
-
-    private static WordFlasher orders(WordFlasher x, String orders) {
-        x.clearOrders();
-        for (int i = 0; i < orders.length(); i++) {
-            x.order(orders.charAt(i));
-        }
-        return x;
-    }
-
-    private static String repeat(String part, int times) {
-        return part.repeat(times);
-    }
-
-    private static void dueRow(String name, int[] got, int... want) {
-        due(name + ": how many", got.length, want.length);
-        for (int i = 0; i < Math.min(got.length, want.length); i++) {
-            due(name + " [" + i + "]", got[i], want[i]);
-        }
-    }
-
-    /** A property of all words. */
-    private static int[] ofWords(WordFlasher x, int what) {
-        int[] row = new int[x.count(1)];
-        for (int w = 0; w < row.length; w++) {
-            row[w] = x.word(w, what);
-        }
-        return row;
-    }
-
-    private static int[] ofSentences(WordFlasher x, int what) {
-        int[] row = new int[x.count(2)];
-        for (int s = 0; s < row.length; s++) {
-            row[s] = x.sentence(s, what);
-        }
-        return row;
-    }
-
-    private static int[] ofPages(WordFlasher x, int what) {
-        int[] row = new int[x.count(3)];
-        for (int p = 0; p < row.length; p++) {
-            row[p] = x.page(p, what);
-        }
-        return row;
-    }
-
-    private static void dueSpeeds(String name, WordFlasher x, int first, int second, int third) {
-        dueRow(name + ": speeds", new int[] {x.count(30), x.count(31), x.count(32)}, first, second, third);
-    }
-
-    private static void duePresent(String name, WordFlasher x, int word, int rest) {
-        due(name + ": present", x.count(4), word);
-        due(name + ": rest", x.count(5), rest);
     }
 
     // ---- promise 1
@@ -776,56 +695,46 @@ public final class PromisesTest {
         return row;
     }
 
-    private static void undoRestoresEverything() {
+    private static WordFlasher beforeChanges() {
         WordFlasher x = of("a b. ccccc | d e. f");
         x.note(1, 11);
         x.jump(2);
         x.run(19);
-        orders(x, "n5;b;u;r50;j0;");
-        int[] before = everything(x);
-        x.append('x');
-        x.undo();
-        dueRow("append undone", everything(x), before);
-        x.cut(9);
-        x.undo();
-        dueRow("cut undone", everything(x), before);
-        x.cut(12);
-        append(x, "|,;");
-        x.undo();
-        x.undo();
-        x.undo();
-        x.undo();
-        dueRow("cut undone behind other characters", everything(x), before);
-        x.set(0, 50);
-        x.undo();
-        dueRow("set undone", everything(x), before);
-        x.speed(1, 50);
-        x.undo();
-        dueRow("speed undone", everything(x), before);
-        x.run(500);
-        x.undo();
-        dueRow("run undone", everything(x), before);
-        x.back();
-        x.undo();
-        dueRow("back undone", everything(x), before);
-        x.jump(0);
-        x.undo();
-        dueRow("jump undone", everything(x), before);
-        x.goBack();
-        x.undo();
-        dueRow("goBack undone", everything(x), before);
-        x.note(0, 3);
-        x.undo();
-        dueRow("note undone", everything(x), before);
-        x.unnote(1);
-        x.undo();
-        dueRow("unnote undone", everything(x), before);
-        due("carry", x.carry(), 5);
-        x.undo();
-        dueRow("carry undone", everything(x), before);
-        due("undone: the place", x.goBack(), 0);
-        x.undo();
+        return orders(x, "n5;b;u;r50;j0;");
+    }
 
+    private static void undone(String name, ToIntFunction<WordFlasher> change) {
+        WordFlasher x = beforeChanges();
+        due(name + " is a change", change.applyAsInt(x) < 0 ? 0 : 1, 1);
+        x.undo();
+        dueRow(name + " undone", everything(x), everything(beforeChanges()));
+        due(name + " undone: the place", x.goBack(), 0);
+    }
+
+    private static void undoRestoresEverything() {
+        undone("append", x -> x.append('x'));
+        undone("cut", x -> x.cut(9));
+        undone("set", x -> x.set(0, 50));
+        undone("speed", x -> x.speed(1, 50));
+        undone("run", x -> x.run(500));
+        undone("back", WordFlasher::back);
+        undone("jump", x -> x.jump(0));
+        undone("goBack", WordFlasher::goBack);
+        undone("note", x -> x.note(0, 3));
+        undone("unnote", x -> x.unnote(1));
+        undone("carry", WordFlasher::carry);
+        due("carry", beforeChanges().carry(), 5);
+        WordFlasher other = beforeChanges();
+        other.cut(12);
+        append(other, "|,;");
+        for (int state = 0; state < 4; state++) {
+            other.undo();
+        }
+        dueRow("cut undone behind other characters", everything(other), everything(beforeChanges()));
+    }
+
+    private static void undoRestoresWhatIsNotShown() {
+        WordFlasher x = of("a b. ccccc | d e. f");
         x.set(5, 0);
         x.jump(0);
         x.back();
