@@ -17,6 +17,8 @@ public final class WordFlasher {
     private static final int MOST_WORDS = 150;
     private static final int MOST_TICKS = 9999;
     private static final int MOST_PAGE_TICKS = 100000;
+    /** More than all words of a text can take: each of its characters takes at most 12000 ticks. */
+    private static final int UNTIL_ALL_IS_SHOWN = 1000000000;
     private static final int MOST_STATES = 4;
     private static final int MOST_PLACES = 5;
     private static final int MOST_LATEST = 3;
@@ -277,7 +279,7 @@ public final class WordFlasher {
             return NOT_POSSIBLE;
         }
         ahead.copy(now);
-        ahead.letPass(Integer.MAX_VALUE);
+        ahead.letPass(UNTIL_ALL_IS_SHOWN);
         return ahead.ticksGone - now.ticksGone;
     }
 

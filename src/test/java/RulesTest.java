@@ -22,6 +22,9 @@ public final class RulesTest {
     private static final Set<String> CONSTANTS = Set.of("INVALID_ARGUMENT", "NOT_POSSIBLE", "LIMIT_REACHED",
         "NOT_FOUND");
 
+    /** What the class uses of the library that LANGUAGE.md lists, beside the clone of an array. */
+    private static final Set<String> LIBRARY = Set.of("Math.max", "Math.min", "System.arraycopy");
+
     private static final Dues DUES = new Dues();
 
     private RulesTest() {
@@ -116,6 +119,11 @@ public final class RulesTest {
         for (String word : new String[] {"throw", "throws", "try", "catch", "finally", "synchronized", "assert",
             "import", "package", "equals", "hashCode", "toString", "Exact", "float", "double"}) {
             DUES.holds("no " + word, !Pattern.compile("\\b" + word + "\\b").matcher(bare).find());
+        }
+        Matcher library = Pattern.compile("\\b(?:Integer|Long|Math|System|Arrays|Character|String|Object)\\b[.\\w]*")
+            .matcher(bare);
+        while (library.find()) {
+            DUES.holds(library.group() + " is of the library that may be used", LIBRARY.contains(library.group()));
         }
         DUES.holds("no lambda, no method reference", !bare.contains("->") && !bare.contains("::"));
         DUES.holds("no texts", !bare.contains("\"\"") && !bare.replace("'\"'", "").contains("\""));
